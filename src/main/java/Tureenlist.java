@@ -250,7 +250,7 @@ public final class Tureenlist {
     }
     refuseIfSettled(of);
     of.cost = price;
-    return sendPledgesBack(of, of.forMany ? of.pledged() - price : 0);
+    return sendPledgesBack(of, of.pledged() - price);
   }
 
   public int strike(int wish) throws IndexOutOfBoundsException, IllegalStateException {

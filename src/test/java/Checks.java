@@ -22,17 +22,21 @@ final class Checks {
     same(name, Integer.valueOf(got), Integer.valueOf(due));
   }
 
-  /** The exact class counts, so that an exception of the machine's own is never taken for it. */
   void refused(String name, Class<? extends RuntimeException> due, Call call) {
     same(name, answerOf(call), due.getSimpleName());
   }
 
-  /** What a call answers, or the name of what it throws. */
+  /**
+   * What a call answers, or the name of what it throws: another name, if it is not the class's own
+   * statement that throws it, but the machine or the library.
+   */
   static Object answerOf(Call call) {
     try {
       return call.answer();
     } catch (RuntimeException e) {
-      return e.getClass().getSimpleName();
+      String thrower = e.getStackTrace()[0].getClassName();
+      boolean own = thrower.equals("Tureenlist") || thrower.equals("Model");
+      return own ? e.getClass().getSimpleName() : thrower + "'s own " + e.getClass().getSimpleName();
     }
   }
 

@@ -563,6 +563,10 @@ public final class PromisesTest {
     same("14 called off", x.shop(11), 1);
     refused(x, "14 again", STATE, () -> x.callOff());
     same("14 empty list", new Tureenlist().callOff(), 0);
+    Tureenlist one = list(1, 9);
+    one.shared(10);
+    one.pledge(0, 0, 9);
+    same("14 the first wish's pledges", one.callOff(), 9);
   }
 
   private static void promise15() {
@@ -715,6 +719,10 @@ public final class PromisesTest {
     y.buy(0, 0, 0);
     y.giveBack(0, 0);
     same("18 nor is a gift given back", y.ofTill(0, 4), 2);
+    Tureenlist poor = list(1, 0);
+    poor.guest(50);
+    poor.wish(5, 10);
+    same("18 an empty purse buys nothing", poor.ofTill(0, 4), 1);
     Tureenlist full = list(1, 999);
     full.wish(2, 1);
     for (int n = 0; n < 40; n++) {
@@ -797,6 +805,8 @@ public final class PromisesTest {
     x.pledge(0, 1, 5);
     x.pledge(2, 1, 6);
     same("21 by rising numbers, each once", x.card(1), "+02");
+    x.pledge(3, 1, 1);
+    same("21 a penny is a pledge", x.card(1), "+023");
     x.strike(1);
     same("21 all went back", x.card(1), "none");
     for (int bad : new int[] {-1, 2, LOWEST, HIGHEST}) {
@@ -853,6 +863,11 @@ public final class PromisesTest {
     x.buy(0, 1, 0);
     same("23 who has a gift is hinted to, too", x.hint(1, 0), -1);
     same("23 nothing is changed", x.shop(3), 1);
+    Tureenlist two = list(1, 100);
+    two.guest(10);
+    two.wish(2, 10);
+    two.wish(1, 30);
+    same("23 just that piece is left out", two.hint(0, 0), 0);
     Tureenlist y = list(2, 50);
     y.wish(2, 20);
     y.wish(2, 20);
@@ -882,9 +897,17 @@ public final class PromisesTest {
     x.buy(1, 1, 0);
     x.buy(2, 2, 0);
     same("24 too many while apart", x.isSound(), true);
+    x.giveBack(0, 0);
+    x.buy(0, 0, 0);
+    x.wish(2, 1);
+    x.buy(0, 0, 2);
+    same("24 tills apart see more and less", x.isSound(), true);
     x.join(0);
+    same("24 one apart", x.isSound(), true);
     x.join(1);
     same("24 joined", x.isSound(), true);
+    x.guest(0);
+    same("24 an empty purse", x.isSound(), true);
     x.pledge(0, 1, 50);
     same("24 ordered", x.isSound(), true);
     x.callOff();
@@ -918,5 +941,24 @@ public final class PromisesTest {
         1, 0, 0, 0, 0, 2, 2, 0, 0, 0, 0,
         0, 1, 0, 1, 0, 1, 1, 0, 0, 0, 0,
         0, 1));
+    x.giveBack(0, 0);
+    x.price(0, 5);
+    x.apart(0);
+    x.buy(0, 0, 0);
+    x.buy(1, 0, 0);
+    x.buy(1, 0, 0);
+    x.buy(2, 0, 0);
+    x.join(2);
+    x.price(0, 40);
+    x.guest(50);
+    x.wish(1, 50);
+    same("25 with more than zeros", x.digest(), folded(
+        6, 3, 3, 5, 3, 1, 1, 34, 15, 0, 0, 0,
+        2, 40, 0, 0, 3, 1, 0, 0, 0, 1, 25, 1, 0, 0, 0, 4, 21, 0, 1, 50, 0, 0, 0, 0, 0, 0, 0,
+        15, 3, 15, 0, 1, 0, 26, 0, 0, 4, 0, 0, 50, 0, 0, 0, 0, 0,
+        0, 1, 0, 1, 1, 2, 1, 0, 1, -1, -1, 0, 1,
+        1, 2, 0, 2, 1, 1, 0, 0, 1, -1, -1, 2, 0,
+        1, 0, 0, 2, 1, 1, 0, 0, 1, -1, -1, 2, 0,
+        2, 0, 0, 0, 1, 1));
   }
 }
