@@ -35,7 +35,8 @@ final class Checks {
       return call.answer();
     } catch (RuntimeException e) {
       String thrower = e.getStackTrace()[0].getClassName();
-      boolean own = thrower.equals("Tureenlist") || thrower.equals("Model");
+      boolean own = thrower.equals("Tureenlist") || thrower.startsWith("Tureenlist$")
+          || thrower.equals("Model");
       return own ? e.getClass().getSimpleName() : thrower + "'s own " + e.getClass().getSimpleName();
     }
   }

@@ -6,7 +6,7 @@ import java.util.ArrayList;
 import java.util.List;
 import java.util.TreeSet;
 
-/** The face is the document's, and no more of the class can be reached from outside (LANGUAGE.md, rules 1 and 5). */
+/** The face is the document's, and no more of the class can be reached (LANGUAGE.md, rules 1 and 5). */
 public final class FaceTest {
   private static final Checks checks = new Checks();
   private static final String[] FACE = {
